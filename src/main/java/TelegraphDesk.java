@@ -394,10 +394,12 @@ public final class TelegraphDesk {
     /** The codes: each has LONGEST_CODE places for the types of its words, NONE behind the last one. */
     private static final class CodeBook {
         private final int[] types;
+        private final int[] lengths;
         private int count;
 
         CodeBook() {
             types = new int[MOST_CODES * LONGEST_CODE];
+            lengths = new int[MOST_CODES];
         }
 
         int size() {
@@ -420,11 +422,7 @@ public final class TelegraphDesk {
         }
 
         int wordsIn(int code) {
-            int length = 0;
-            while (length < LONGEST_CODE && typeIn(code, length) != NONE) {
-                length++;
-            }
-            return length;
+            return has(code) ? lengths[code] : 0;
         }
 
         boolean holds(int first, int second, int third, int fourth) {
@@ -446,6 +444,10 @@ public final class TelegraphDesk {
             types[at + 1] = second;
             types[at + 2] = third;
             types[at + 3] = fourth;
+            lengths[count] = LONGEST_CODE;
+            if (fourth == NONE) {
+                lengths[count] = third == NONE ? SHORTEST_CODE : LONGEST_CODE - 1;
+            }
             count++;
         }
 
@@ -453,8 +455,9 @@ public final class TelegraphDesk {
             if (!has(code)) {
                 return;
             }
-            int behind = (count - code - 1) * LONGEST_CODE;
-            System.arraycopy(types, (code + 1) * LONGEST_CODE, types, code * LONGEST_CODE, behind);
+            int behind = count - code - 1;
+            System.arraycopy(types, (code + 1) * LONGEST_CODE, types, code * LONGEST_CODE, behind * LONGEST_CODE);
+            System.arraycopy(lengths, code + 1, lengths, code, behind);
             count--;
         }
     }
@@ -510,7 +513,7 @@ public final class TelegraphDesk {
 
         boolean hasWordsOf(CodeBook book, int code, int start) {
             int length = book.wordsIn(code);
-            if (!has(start + length - 1)) {
+            if (length == 0 || !has(start + length - 1)) {
                 return false;
             }
             for (int place = 0; place < length; place++) {

@@ -124,6 +124,8 @@ public final class PromisesTest {
         }
         dueThrow("addCode, a ninth one", desk, STATE, () -> desk.addCode(3, 3, -1, -1));
         dueThrow("addCode, a ninth one, wrong", desk, ARGUMENT, () -> desk.addCode(3, 10, -1, -1));
+        dueThrow("addCode, a ninth one, wrong third", desk, ARGUMENT, () -> desk.addCode(3, 3, 10, -1));
+        dueThrow("addCode, a ninth one without third", desk, ARGUMENT, () -> desk.addCode(3, 3, -1, 3));
         desk.dropCode(7);
         due("addCode behind a dropCode", desk.addCode(7, 7, -1, -1), 7);
     }
@@ -388,6 +390,11 @@ public final class PromisesTest {
         due("the third repeat is garbled too", desk.send(), 1);
         due("lost: sentGroups()", desk.sentGroups(), 7);
         due("lost: repeats()", desk.repeats(), 5);
+        desk.setQuality(1);
+        desk.write(0);
+        due("6 3 1 8 are garbled", desk.send(), 1);
+        due("lost() of two messages", desk.lost(), 2);
+        due("repeats() of three messages", desk.repeats(), 8);
         TelegraphDesk some = new TelegraphDesk();
         some.setQuality(5);
         sendSingles(some, 4);
