@@ -9,8 +9,9 @@ import java.util.Random;
  * parting compared with every other one), over runs of calls drawn with fixed seeds.
  */
 public final class ModelTest {
-    private static final int RUNS = 400;
-    private static final int CALLS = 120;
+    private static final int RUNS = 900;
+    // With a look at some 150 answers at the end no object is used for more than 512 calls.
+    private static final int MOST_CHANGES = 110;
     private static final int WORDS_WITH_ALL_WAYS = 9;
 
     private static int wrong = 0;
@@ -379,8 +380,6 @@ public final class ModelTest {
 
     private static void compare(String what, TelegraphDesk desk, Model model) {
         due(what + ": the numbers", numbers(desk), model.numbers());
-        due(what + ": digest()", desk.digest(), model.digest());
-        due(what + ": meanLength()", desk.meanLength(), model.meanLength());
         List<int[]> groups = model.groups();
         for (int number : new int[] {-1, 0, 1, 4, 8, groups.size() - 1, groups.size(), model.words.size()}) {
             int size = model.codes.size();
@@ -403,10 +402,13 @@ public final class ModelTest {
             int types = run % 5 == 0 ? 10 : 1 + run % 5;
             TelegraphDesk desk = new TelegraphDesk();
             Model model = new Model();
-            for (int call = 0; call < CALLS; call++) {
-                String made = change(desk, model, random, types);
-                compare("run " + run + ", call " + call + ", " + made, desk, model);
+            int changes = 1 + run % MOST_CHANGES;
+            for (int call = 1; call <= changes; call++) {
+                String what = "run " + run + ", change " + call + ", " + change(desk, model, random, types);
+                due(what + ": digest()", desk.digest(), model.digest());
+                due(what + ": meanLength()", desk.meanLength(), model.meanLength());
             }
+            compare("run " + run + ", at its end", desk, model);
         }
         System.out.println(wrong == 0 ? "the desk answers as the model does" : wrong + " answers are not as due");
         if (wrong != 0) {

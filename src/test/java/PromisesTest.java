@@ -1,64 +1,31 @@
 /** For each promise of the document: ordinary inputs, the edges that it names, and wrong inputs. */
 public final class PromisesTest {
-    private interface Call {
-        void run();
-    }
-
     private static final int[] WRONG_NUMBERS = {
         Integer.MIN_VALUE, Integer.MIN_VALUE + 1, -1000, -2, -1, 1000, Integer.MAX_VALUE - 1, Integer.MAX_VALUE};
 
-    private static final Class<?> ARGUMENT = IllegalArgumentException.class;
-    private static final Class<?> STATE = IllegalStateException.class;
-    private static final Class<?> INDEX = IndexOutOfBoundsException.class;
+    private static final Class<?> ARGUMENT = Dues.ARGUMENT;
+    private static final Class<?> STATE = Dues.STATE;
+    private static final Class<?> INDEX = Dues.INDEX;
 
-    private static int wrong = 0;
+    private static final Dues DUES = new Dues();
 
     private static void due(String call, long got, long want) {
-        if (got != want) {
-            wrong++;
-            System.out.println(call + " answered " + got + ", due is " + want);
-        }
+        DUES.due(call, got, want);
     }
 
     private static void dueMean(String call, double got, double want) {
-        if (got != want) {
-            wrong++;
-            System.out.println(call + " answered " + got + ", due is " + want);
-        }
+        DUES.due(call, got, want);
     }
 
-    /** The call throws just this exception, and changes nothing. */
-    private static void dueThrow(String call, TelegraphDesk desk, Class<?> want, Call made) {
+    private static void dueGroups(String call, TelegraphDesk desk, int[] codes, int[] starts) {
+        DUES.groups(call, desk, codes, starts);
+    }
+
+    /** The call throws just this exception, and the checksum stays; UnchangedTest looks at all the rest. */
+    private static void dueThrow(String call, TelegraphDesk desk, Class<?> want, Seen.Call made) {
         long before = desk.digest();
-        Class<?> got = null;
-        try {
-            made.run();
-        } catch (RuntimeException thrown) {
-            got = thrown.getClass();
-        }
-        if (got != want) {
-            wrong++;
-            System.out.println(call + " threw " + got + ", due is " + want);
-        }
+        DUES.due(call, Seen.said(desk, made), Seen.thrown(want));
         due("digest() behind " + call + " that throws", desk.digest(), before);
-    }
-
-    private static TelegraphDesk deskWith(int... types) {
-        TelegraphDesk desk = new TelegraphDesk();
-        writeAll(desk, types);
-        return desk;
-    }
-
-    private static void writeAll(TelegraphDesk desk, int... types) {
-        for (int type : types) {
-            desk.write(type);
-        }
-    }
-
-    private static void writeSame(TelegraphDesk desk, int type, int times) {
-        for (int i = 0; i < times; i++) {
-            desk.write(type);
-        }
     }
 
     /** Sends as many messages of one word. */
@@ -66,14 +33,6 @@ public final class PromisesTest {
         for (int i = 0; i < times; i++) {
             desk.write(0);
             desk.send();
-        }
-    }
-
-    private static void dueGroups(String what, TelegraphDesk desk, int[] codes, int[] starts) {
-        due(what + ": groups()", desk.groups(), codes.length);
-        for (int group = 0; group < Math.min(codes.length, desk.groups()); group++) {
-            due(what + ": codeOf(" + group + ")", desk.codeOf(group), codes[group]);
-            due(what + ": startOf(" + group + ")", desk.startOf(group), starts[group]);
         }
     }
 
@@ -107,39 +66,39 @@ public final class PromisesTest {
         due("lengthOf(1)", desk.lengthOf(1), 3);
         due("lengthOf(2)", desk.lengthOf(2), 4);
         for (int type : new int[] {-2, -1, 10, 11, Integer.MIN_VALUE, Integer.MAX_VALUE}) {
-            dueThrow("addCode(" + type + ", 0, -1, -1)", desk, ARGUMENT, () -> desk.addCode(type, 0, -1, -1));
-            dueThrow("addCode(0, " + type + ", -1, -1)", desk, ARGUMENT, () -> desk.addCode(0, type, -1, -1));
+            dueThrow("addCode(" + type + ", 0, -1, -1)", desk, ARGUMENT, asked -> asked.addCode(type, 0, -1, -1));
+            dueThrow("addCode(0, " + type + ", -1, -1)", desk, ARGUMENT, asked -> asked.addCode(0, type, -1, -1));
             if (type != -1) {
-                dueThrow("addCode(0, 0, " + type + ", -1)", desk, ARGUMENT, () -> desk.addCode(0, 0, type, -1));
-                dueThrow("addCode(0, 0, 0, " + type + ")", desk, ARGUMENT, () -> desk.addCode(0, 0, 0, type));
+                dueThrow("addCode(0, 0, " + type + ", -1)", desk, ARGUMENT, asked -> asked.addCode(0, 0, type, -1));
+                dueThrow("addCode(0, 0, 0, " + type + ")", desk, ARGUMENT, asked -> asked.addCode(0, 0, 0, type));
             }
         }
-        dueThrow("addCode(0, 0, -1, 0)", desk, ARGUMENT, () -> desk.addCode(0, 0, -1, 0));
-        dueThrow("addCode(0, 9, -1, -1) again", desk, STATE, () -> desk.addCode(0, 9, -1, -1));
-        dueThrow("addCode(0, 9, 0, -1) again", desk, STATE, () -> desk.addCode(0, 9, 0, -1));
-        dueThrow("addCode(0, 9, 0, 9) again", desk, STATE, () -> desk.addCode(0, 9, 0, 9));
-        dueThrow("addCode(0, 9, -1, 9)", desk, ARGUMENT, () -> desk.addCode(0, 9, -1, 9));
+        dueThrow("addCode(0, 0, -1, 0)", desk, ARGUMENT, asked -> asked.addCode(0, 0, -1, 0));
+        dueThrow("addCode(0, 9, -1, -1) again", desk, STATE, asked -> asked.addCode(0, 9, -1, -1));
+        dueThrow("addCode(0, 9, 0, -1) again", desk, STATE, asked -> asked.addCode(0, 9, 0, -1));
+        dueThrow("addCode(0, 9, 0, 9) again", desk, STATE, asked -> asked.addCode(0, 9, 0, 9));
+        dueThrow("addCode(0, 9, -1, 9)", desk, ARGUMENT, asked -> asked.addCode(0, 9, -1, 9));
         for (int type = 4; type < 8; type++) {
             due("addCode of a number " + type, desk.addCode(type, type, -1, -1), type);
         }
-        dueThrow("addCode, a ninth one", desk, STATE, () -> desk.addCode(3, 3, -1, -1));
-        dueThrow("addCode, a ninth one, wrong", desk, ARGUMENT, () -> desk.addCode(3, 10, -1, -1));
-        dueThrow("addCode, a ninth one, wrong third", desk, ARGUMENT, () -> desk.addCode(3, 3, 10, -1));
-        dueThrow("addCode, a ninth one without third", desk, ARGUMENT, () -> desk.addCode(3, 3, -1, 3));
+        dueThrow("addCode, a ninth one", desk, STATE, asked -> asked.addCode(3, 3, -1, -1));
+        dueThrow("addCode, a ninth one, wrong", desk, ARGUMENT, asked -> asked.addCode(3, 10, -1, -1));
+        dueThrow("addCode, a ninth one, wrong third", desk, ARGUMENT, asked -> asked.addCode(3, 3, 10, -1));
+        dueThrow("addCode, a ninth one without third", desk, ARGUMENT, asked -> asked.addCode(3, 3, -1, 3));
         desk.dropCode(7);
         due("addCode behind a dropCode", desk.addCode(7, 7, -1, -1), 7);
     }
 
     private static void dropCode() {
-        TelegraphDesk desk = deskWith(1, 2, 3, 4);
-        dueThrow("dropCode(0) without codes", desk, INDEX, () -> desk.dropCode(0));
+        TelegraphDesk desk = Desks.withWords(1, 2, 3, 4);
+        dueThrow("dropCode(0) without codes", desk, INDEX, asked -> asked.dropCode(0));
         desk.addCode(1, 2, -1, -1);
         desk.addCode(2, 3, 4, -1);
         desk.addCode(1, 2, 3, 4);
         for (int code : WRONG_NUMBERS) {
-            dueThrow("dropCode(" + code + ")", desk, INDEX, () -> desk.dropCode(code));
+            dueThrow("dropCode(" + code + ")", desk, INDEX, asked -> asked.dropCode(code));
         }
-        dueThrow("dropCode(3)", desk, INDEX, () -> desk.dropCode(3));
+        dueThrow("dropCode(3)", desk, INDEX, asked -> asked.dropCode(3));
         dueGroups("all codes", desk, new int[] {2}, new int[] {0});
         due("dropCode(1)", desk.dropCode(1), 3);
         due("codes()", desk.codes(), 2);
@@ -151,7 +110,7 @@ public final class PromisesTest {
         due("dropCode(0)", desk.dropCode(0), 2);
         dueGroups("no code is left", desk, new int[] {-1, -1, -1, -1}, new int[] {0, 1, 2, 3});
         due("addCode again", desk.addCode(1, 2, 3, 4), 0);
-        TelegraphDesk full = deskWith(7, 7, 0, 0);
+        TelegraphDesk full = Desks.withWords(7, 7, 0, 0);
         for (int type = 0; type < 8; type++) {
             full.addCode(type, type, -1, -1);
         }
@@ -163,7 +122,7 @@ public final class PromisesTest {
 
     private static void codesAndLengthOf() {
         TelegraphDesk desk = new TelegraphDesk();
-        dueThrow("lengthOf(0) without codes", desk, INDEX, () -> desk.lengthOf(0));
+        dueThrow("lengthOf(0) without codes", desk, INDEX, asked -> asked.lengthOf(0));
         for (int type = 0; type < 8; type++) {
             due("codes()", desk.codes(), type);
             desk.addCode(type, type, type % 3 > 0 ? 1 : -1, type % 3 > 1 ? 0 : -1);
@@ -173,22 +132,22 @@ public final class PromisesTest {
             due("lengthOf(" + code + ")", desk.lengthOf(code), 2 + code % 3);
         }
         for (int code : WRONG_NUMBERS) {
-            dueThrow("lengthOf(" + code + ")", desk, INDEX, () -> desk.lengthOf(code));
+            dueThrow("lengthOf(" + code + ")", desk, INDEX, asked -> asked.lengthOf(code));
         }
-        dueThrow("lengthOf(8)", desk, INDEX, () -> desk.lengthOf(8));
+        dueThrow("lengthOf(8)", desk, INDEX, asked -> asked.lengthOf(8));
     }
 
     private static void write() {
         TelegraphDesk desk = new TelegraphDesk();
         for (int type : WRONG_NUMBERS) {
-            dueThrow("write(" + type + ")", desk, ARGUMENT, () -> desk.write(type));
+            dueThrow("write(" + type + ")", desk, ARGUMENT, asked -> asked.write(type));
         }
-        dueThrow("write(10)", desk, ARGUMENT, () -> desk.write(10));
+        dueThrow("write(10)", desk, ARGUMENT, asked -> asked.write(10));
         for (int i = 0; i < 24; i++) {
             due("write(" + i % 10 + ")", desk.write(i % 10), i + 1);
         }
-        dueThrow("write(0), a 25th word", desk, STATE, () -> desk.write(0));
-        dueThrow("write(10), a 25th word", desk, ARGUMENT, () -> desk.write(10));
+        dueThrow("write(0), a 25th word", desk, STATE, asked -> asked.write(0));
+        dueThrow("write(10), a 25th word", desk, ARGUMENT, asked -> asked.write(10));
         for (int i = 0; i < 24; i++) {
             due("typeOf(" + i + ")", desk.typeOf(i), i % 10);
         }
@@ -196,10 +155,10 @@ public final class PromisesTest {
 
     private static void strikeAndClear() {
         TelegraphDesk desk = new TelegraphDesk();
-        dueThrow("strike() without words", desk, STATE, () -> desk.strike());
+        dueThrow("strike() without words", desk, STATE, asked -> asked.strike());
         due("clear() without words", desk.clear(), 0);
         desk.addCode(4, 5, -1, -1);
-        writeAll(desk, 4, 5, 9);
+        Desks.write(desk, 4, 5, 9);
         due("groups()", desk.groups(), 2);
         due("strike()", desk.strike(), 9);
         due("words()", desk.words(), 2);
@@ -207,8 +166,8 @@ public final class PromisesTest {
         due("strike()", desk.strike(), 5);
         dueGroups("a code without its last word", desk, new int[] {-1}, new int[] {0});
         due("strike()", desk.strike(), 4);
-        dueThrow("strike() behind the last one", desk, STATE, () -> desk.strike());
-        writeSame(desk, 6, 24);
+        dueThrow("strike() behind the last one", desk, STATE, asked -> asked.strike());
+        Desks.writeSame(desk, 6, 24);
         due("clear() of 24", desk.clear(), 24);
         due("words()", desk.words(), 0);
         due("groups()", desk.groups(), 0);
@@ -221,27 +180,27 @@ public final class PromisesTest {
 
     private static void wordsAndTypeOf() {
         TelegraphDesk desk = new TelegraphDesk();
-        dueThrow("typeOf(0) without words", desk, INDEX, () -> desk.typeOf(0));
-        writeAll(desk, 7, 0, 9);
+        dueThrow("typeOf(0) without words", desk, INDEX, asked -> asked.typeOf(0));
+        Desks.write(desk, 7, 0, 9);
         due("words()", desk.words(), 3);
         due("typeOf(0)", desk.typeOf(0), 7);
         due("typeOf(1)", desk.typeOf(1), 0);
         due("typeOf(2)", desk.typeOf(2), 9);
-        dueThrow("typeOf(3)", desk, INDEX, () -> desk.typeOf(3));
+        dueThrow("typeOf(3)", desk, INDEX, asked -> asked.typeOf(3));
         for (int word : WRONG_NUMBERS) {
-            dueThrow("typeOf(" + word + ")", desk, INDEX, () -> desk.typeOf(word));
+            dueThrow("typeOf(" + word + ")", desk, INDEX, asked -> asked.typeOf(word));
         }
         desk.strike();
-        dueThrow("typeOf(2) behind strike()", desk, INDEX, () -> desk.typeOf(2));
+        dueThrow("typeOf(2) behind strike()", desk, INDEX, asked -> asked.typeOf(2));
     }
 
     private static void groups() {
-        TelegraphDesk desk = deskWith(1, 2, 3, 1, 2, 8, 9, 1, 2, 3, 4);
+        TelegraphDesk desk = Desks.withWords(1, 2, 3, 1, 2, 8, 9, 1, 2, 3, 4);
         desk.addCode(1, 2, -1, -1);
         desk.addCode(2, 3, 1, -1);
         desk.addCode(1, 2, 3, 4);
         dueGroups("the longest first group", desk, new int[] {0, -1, 0, -1, -1, 2}, new int[] {0, 2, 3, 5, 6, 7});
-        TelegraphDesk greedy = deskWith(1, 1, 1, 2, 3);
+        TelegraphDesk greedy = Desks.withWords(1, 1, 1, 2, 3);
         greedy.addCode(1, 1, 1, -1);
         greedy.addCode(1, 1, -1, -1);
         greedy.addCode(1, 2, 3, -1);
@@ -249,51 +208,51 @@ public final class PromisesTest {
         TelegraphDesk zeros = new TelegraphDesk();
         zeros.addCode(0, 0, -1, -1);
         zeros.addCode(0, 0, 0, -1);
-        writeSame(zeros, 0, 5);
+        Desks.writeSame(zeros, 0, 5);
         dueGroups("five zeros", zeros, new int[] {1, 0}, new int[] {0, 3});
-        writeSame(zeros, 0, 2);
+        Desks.writeSame(zeros, 0, 2);
         dueGroups("seven zeros", zeros, new int[] {1, 1, -1}, new int[] {0, 3, 6});
         zeros.addCode(0, 0, 0, 0);
         dueGroups("seven zeros, a longer code", zeros, new int[] {2, 1}, new int[] {0, 4});
         zeros.clear();
-        writeSame(zeros, 0, 24);
+        Desks.writeSame(zeros, 0, 24);
         dueGroups("24 zeros", zeros, new int[] {2, 2, 2, 2, 2, 2}, new int[] {0, 4, 8, 12, 16, 20});
-        TelegraphDesk second = deskWith(5, 1, 1, 1, 1, 1);
+        TelegraphDesk second = Desks.withWords(5, 1, 1, 1, 1, 1);
         second.addCode(1, 1, -1, -1);
         second.addCode(1, 1, 1, -1);
         dueGroups("the longest second group", second, new int[] {-1, 1, 0}, new int[] {0, 1, 4});
-        TelegraphDesk end = deskWith(3, 4, 5);
+        TelegraphDesk end = Desks.withWords(3, 4, 5);
         end.addCode(4, 5, 6, -1);
         end.addCode(5, 6, -1, -1);
         dueGroups("no code goes over the end", end, new int[] {-1, -1, -1}, new int[] {0, 1, 2});
     }
 
     private static void groupNumbers() {
-        TelegraphDesk desk = deskWith(1, 2, 3);
+        TelegraphDesk desk = Desks.withWords(1, 2, 3);
         desk.addCode(1, 2, -1, -1);
         for (int group : WRONG_NUMBERS) {
-            dueThrow("codeOf(" + group + ")", desk, INDEX, () -> desk.codeOf(group));
-            dueThrow("startOf(" + group + ")", desk, INDEX, () -> desk.startOf(group));
+            dueThrow("codeOf(" + group + ")", desk, INDEX, asked -> asked.codeOf(group));
+            dueThrow("startOf(" + group + ")", desk, INDEX, asked -> asked.startOf(group));
         }
-        dueThrow("codeOf(2), words behind the groups", desk, INDEX, () -> desk.codeOf(2));
-        dueThrow("startOf(2), words behind the groups", desk, INDEX, () -> desk.startOf(2));
+        dueThrow("codeOf(2), words behind the groups", desk, INDEX, asked -> asked.codeOf(2));
+        dueThrow("startOf(2), words behind the groups", desk, INDEX, asked -> asked.startOf(2));
         desk.clear();
-        dueThrow("codeOf(0) without words", desk, INDEX, () -> desk.codeOf(0));
-        dueThrow("startOf(0) without words", desk, INDEX, () -> desk.startOf(0));
+        dueThrow("codeOf(0) without words", desk, INDEX, asked -> asked.codeOf(0));
+        dueThrow("startOf(0) without words", desk, INDEX, asked -> asked.startOf(0));
     }
 
     private static void usesOf() {
-        TelegraphDesk desk = deskWith(1, 2, 5, 1, 2, 6, 6, 6);
-        dueThrow("usesOf(0) without codes", desk, INDEX, () -> desk.usesOf(0));
+        TelegraphDesk desk = Desks.withWords(1, 2, 5, 1, 2, 6, 6, 6);
+        dueThrow("usesOf(0) without codes", desk, INDEX, asked -> asked.usesOf(0));
         desk.addCode(1, 2, -1, -1);
         desk.addCode(7, 7, -1, -1);
         desk.addCode(6, 6, -1, -1);
         due("usesOf(0)", desk.usesOf(0), 2);
         due("usesOf(1)", desk.usesOf(1), 0);
         due("usesOf(2)", desk.usesOf(2), 1);
-        dueThrow("usesOf(3)", desk, INDEX, () -> desk.usesOf(3));
+        dueThrow("usesOf(3)", desk, INDEX, asked -> asked.usesOf(3));
         for (int code : WRONG_NUMBERS) {
-            dueThrow("usesOf(" + code + ")", desk, INDEX, () -> desk.usesOf(code));
+            dueThrow("usesOf(" + code + ")", desk, INDEX, asked -> asked.usesOf(code));
         }
         desk.clear();
         due("usesOf(0) without words", desk.usesOf(0), 0);
@@ -301,9 +260,9 @@ public final class PromisesTest {
 
     private static void countedCostSaved() {
         for (int type = 0; type < 10; type++) {
-            due("counted() of a word " + type, deskWith(type).counted(), type >= 8 ? 2 : 1);
+            due("counted() of a word " + type, Desks.withWords(type).counted(), type >= 8 ? 2 : 1);
         }
-        TelegraphDesk desk = deskWith(0, 1, 2, 3, 4, 5, 6, 7, 0, 1);
+        TelegraphDesk desk = Desks.withWords(0, 1, 2, 3, 4, 5, 6, 7, 0, 1);
         due("counted() of ten", desk.counted(), 10);
         due("cost() of ten", desk.cost(), 20);
         desk.write(1);
@@ -325,7 +284,7 @@ public final class PromisesTest {
         due("cost() without words", desk.cost(), 0);
         due("saved() without words", desk.saved(), 0);
         TelegraphDesk nines = new TelegraphDesk();
-        writeSame(nines, 9, 24);
+        Desks.writeSame(nines, 9, 24);
         due("counted() of 24 nines", nines.counted(), 48);
         due("cost() of 24 nines", nines.cost(), 134);
         nines.addCode(9, 9, 9, 9);
@@ -341,16 +300,16 @@ public final class PromisesTest {
             before = quality;
         }
         for (int quality : WRONG_NUMBERS) {
-            dueThrow("setQuality(" + quality + ")", desk, ARGUMENT, () -> desk.setQuality(quality));
+            dueThrow("setQuality(" + quality + ")", desk, ARGUMENT, asked -> asked.setQuality(quality));
         }
-        dueThrow("setQuality(0)", desk, ARGUMENT, () -> desk.setQuality(0));
-        dueThrow("setQuality(10)", desk, ARGUMENT, () -> desk.setQuality(10));
+        dueThrow("setQuality(0)", desk, ARGUMENT, asked -> asked.setQuality(0));
+        dueThrow("setQuality(10)", desk, ARGUMENT, asked -> asked.setQuality(10));
         due("the quality behind wrong ones", desk.setQuality(1), 9);
     }
 
     private static void send() {
         TelegraphDesk desk = new TelegraphDesk();
-        dueThrow("send() without words", desk, STATE, () -> desk.send());
+        dueThrow("send() without words", desk, STATE, asked -> asked.send());
         // n * 7 + n / 10 leaves 7, 4, 1, 8, 5, 2, 9, 6, 3, 1, 8, 5, .. for n from 1 on.
         desk.write(0);
         due("send(), 7 garbled and 4 not", desk.send(), 0);
@@ -361,15 +320,15 @@ public final class PromisesTest {
         due("words()", desk.words(), 0);
         due("groups()", desk.groups(), 0);
         due("quality behind send()", desk.setQuality(1), 7);
-        dueThrow("send() of a message that was sent", desk, STATE, () -> desk.send());
-        writeAll(desk, 1, 2);
+        dueThrow("send() of a message that was sent", desk, STATE, asked -> asked.send());
+        Desks.write(desk, 1, 2);
         due("send(), 1 8 5 2 and 9 6 3 1 garbled", desk.send(), 2);
         due("sentGroups()", desk.sentGroups(), 10);
         due("repeats()", desk.repeats(), 7);
         due("lost()", desk.lost(), 2);
         due("earned()", desk.earned(), 40);
         desk.setQuality(9);
-        writeSame(desk, 8, 11);
+        Desks.writeSame(desk, 8, 11);
         desk.addCode(8, 8, -1, -1);
         due("send() by codes, none lost", desk.send(), 0);
         // Counts 11 to 16 leave 8, 5, 2, 9 .. : 11 is 77 + 1.
@@ -447,7 +406,7 @@ public final class PromisesTest {
         TelegraphDesk desk = new TelegraphDesk();
         due("wouldBeGarbled() without words", desk.wouldBeGarbled(), 0);
         due("repeatsIfSent() without words", desk.repeatsIfSent(), 0);
-        writeAll(desk, 0, 0);
+        Desks.write(desk, 0, 0);
         // Quality 7: 7 4, 1.
         due("wouldBeGarbled()", desk.wouldBeGarbled(), 1);
         due("repeatsIfSent()", desk.repeatsIfSent(), 1);
@@ -480,7 +439,7 @@ public final class PromisesTest {
         due("lost() stays", desk.lost(), 0);
         TelegraphDesk later = new TelegraphDesk();
         later.setQuality(9);
-        writeSame(later, 0, 12);
+        Desks.writeSame(later, 0, 12);
         later.send();
         due("later: sentGroups()", later.sentGroups(), 13);
         later.write(0);
@@ -493,7 +452,7 @@ public final class PromisesTest {
         due("uselessCode() without codes", desk.uselessCode(), -1);
         desk.addCode(1, 2, -1, -1);
         due("uselessCode() without words", desk.uselessCode(), 0);
-        writeAll(desk, 1, 2, 3);
+        Desks.write(desk, 1, 2, 3);
         due("uselessCode(), of use", desk.uselessCode(), -1);
         desk.addCode(4, 4, -1, -1);
         due("uselessCode(), not in the message", desk.uselessCode(), 1);
@@ -506,37 +465,37 @@ public final class PromisesTest {
     }
 
     private static void bestNewCode() {
-        TelegraphDesk desk = deskWith(1, 2, 5, 1, 3, 5, 1);
+        TelegraphDesk desk = Desks.withWords(1, 2, 5, 1, 3, 5, 1);
         for (int length : WRONG_NUMBERS) {
-            dueThrow("bestNewCode(" + length + ")", desk, ARGUMENT, () -> desk.bestNewCode(length));
+            dueThrow("bestNewCode(" + length + ")", desk, ARGUMENT, asked -> asked.bestNewCode(length));
         }
         for (int length : new int[] {0, 1, 5}) {
-            dueThrow("bestNewCode(" + length + ")", desk, ARGUMENT, () -> desk.bestNewCode(length));
+            dueThrow("bestNewCode(" + length + ")", desk, ARGUMENT, asked -> asked.bestNewCode(length));
         }
         due("bestNewCode(2), 5 1 is there twice", desk.bestNewCode(2), 2);
         due("bestNewCode(3), the first one", desk.bestNewCode(3), 0);
         desk.addCode(5, 1, -1, -1);
         due("bestNewCode(2) besides 5 1", desk.bestNewCode(2), 0);
         due("bestNewCode(3) besides 5 1", desk.bestNewCode(3), 0);
-        TelegraphDesk shortOne = deskWith(1, 2, 3);
+        TelegraphDesk shortOne = Desks.withWords(1, 2, 3);
         due("bestNewCode(3) of three words", shortOne.bestNewCode(3), 0);
         due("bestNewCode(4) of three words", shortOne.bestNewCode(4), -1);
         shortOne.clear();
         due("bestNewCode(2) without words", shortOne.bestNewCode(2), -1);
-        dueThrow("bestNewCode(5) without words", shortOne, ARGUMENT, () -> shortOne.bestNewCode(5));
-        TelegraphDesk known = deskWith(1, 2);
+        dueThrow("bestNewCode(5) without words", shortOne, ARGUMENT, asked -> asked.bestNewCode(5));
+        TelegraphDesk known = Desks.withWords(1, 2);
         known.addCode(1, 2, -1, -1);
         due("bestNewCode(2), a code stands for it", known.bestNewCode(2), 0);
-        writeAll(known, 3, 4);
+        Desks.write(known, 3, 4);
         due("bestNewCode(2), the other words", known.bestNewCode(2), 2);
-        TelegraphDesk full = deskWith(6, 6, 9, 9, 9, 9);
+        TelegraphDesk full = Desks.withWords(6, 6, 9, 9, 9, 9);
         for (int type = 0; type < 8; type++) {
             full.addCode(type, type, -1, -1);
         }
         due("bestNewCode(2), there are 8", full.bestNewCode(2), 2);
         due("codes() stay", full.codes(), 8);
         due("groups() stay", full.groups(), 5);
-        TelegraphDesk last = deskWith(1, 1, 1, 1, 2, 3);
+        TelegraphDesk last = Desks.withWords(1, 1, 1, 1, 2, 3);
         last.addCode(1, 1, 1, 1);
         due("bestNewCode(2), the last words", last.bestNewCode(2), 4);
     }
@@ -567,7 +526,7 @@ public final class PromisesTest {
         TelegraphDesk desk = new TelegraphDesk();
         due("digest() of a new object", desk.digest(),
                 digestOf(0, 0, 0, 0, 0, 0, 0, 0, 0, 0, 1, 0, 0, 1, -1, -1, -1, -1));
-        writeAll(desk, 3, 9, 3);
+        Desks.write(desk, 3, 9, 3);
         desk.addCode(3, 9, -1, -1);
         desk.addCode(5, 5, 5, -1);
         due("digest()", desk.digest(),
@@ -579,30 +538,48 @@ public final class PromisesTest {
     }
 
     public static void main(String[] args) {
+        DUES.sentence("Promise 1");
         newObject();
+        DUES.sentence("Promise 2");
         addCode();
+        DUES.sentence("Promise 3");
         dropCode();
+        DUES.sentence("Promises 4 and 5");
         codesAndLengthOf();
+        DUES.sentence("Promise 6");
         write();
+        DUES.sentence("Promises 7 and 8");
         strikeAndClear();
+        DUES.sentence("Promises 9 and 10");
         wordsAndTypeOf();
+        DUES.sentence("Promise 11");
         groups();
+        DUES.sentence("Promises 12 and 13");
         groupNumbers();
+        DUES.sentence("Promise 14");
         usesOf();
+        DUES.sentence("Promises 15 to 17");
         countedCostSaved();
+        DUES.sentence("Promise 18");
         setQuality();
+        DUES.sentence("Promise 19");
         send();
+        DUES.sentence("Promises 20 to 23");
         threeRepeats();
+        DUES.sentence("Promise 24");
         untilGarbled();
+        DUES.sentence("Promises 25 and 26");
         wouldBeGarbledAndRepeats();
+        DUES.sentence("Promise 27");
         qualityWanted();
+        DUES.sentence("Promise 28");
         uselessCode();
+        DUES.sentence("Promise 29");
         bestNewCode();
+        DUES.sentence("Promise 30");
         meanLength();
+        DUES.sentence("Promise 31");
         digest();
-        System.out.println(wrong == 0 ? "all promises are kept" : wrong + " answers are not as due");
-        if (wrong != 0) {
-            System.exit(1);
-        }
+        DUES.end();
     }
 }
