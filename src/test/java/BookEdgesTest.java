@@ -17,16 +17,6 @@ public final class BookEdgesTest {
         return desk;
     }
 
-    /** 8 codes and 24 words. */
-    private static TelegraphDesk full() {
-        TelegraphDesk desk = new TelegraphDesk();
-        Desks.addPairs(desk, 8);
-        for (int word = 0; word < 24; word++) {
-            desk.write(word / 2 % 10);
-        }
-        return desk;
-    }
-
     private static void newObject() {
         TelegraphDesk desk = new TelegraphDesk();
         DUES.due("codes()", desk.codes(), 0);
@@ -54,7 +44,7 @@ public final class BookEdgesTest {
     private static void objectsOfTheirOwn() {
         TelegraphDesk untouched = new TelegraphDesk();
         String before = Seen.all(untouched);
-        TelegraphDesk other = full();
+        TelegraphDesk other = Desks.full();
         other.setQuality(1);
         other.send();
         DUES.due("all of another object", Seen.all(untouched), before);
@@ -131,10 +121,10 @@ public final class BookEdgesTest {
             DUES.due("addCode, " + type + " are there", Desks.add(desk, type, type), type);
         }
         DUES.due("codes()", desk.codes(), 8);
-        DUES.refused("a ninth code of 2", BookEdgesTest::full, Dues.STATE, d -> d.addCode(9, 9, -1, -1));
-        DUES.refused("a ninth code of 3", BookEdgesTest::full, Dues.STATE, d -> d.addCode(9, 9, 9, -1));
-        DUES.refused("a ninth code of 4", BookEdgesTest::full, Dues.STATE, d -> d.addCode(9, 9, 9, 9));
-        DUES.refused("a ninth code, a row that is there", BookEdgesTest::full, Dues.STATE,
+        DUES.refused("a ninth code of 2", Desks::full, Dues.STATE, d -> d.addCode(9, 9, -1, -1));
+        DUES.refused("a ninth code of 3", Desks::full, Dues.STATE, d -> d.addCode(9, 9, 9, -1));
+        DUES.refused("a ninth code of 4", Desks::full, Dues.STATE, d -> d.addCode(9, 9, 9, 9));
+        DUES.refused("a ninth code, a row that is there", Desks::full, Dues.STATE,
                 d -> d.addCode(0, 0, -1, -1));
         desk.dropCode(3);
         DUES.due("addCode, 7 are there again", Desks.add(desk, 9, 9, 9), 7);
@@ -174,24 +164,24 @@ public final class BookEdgesTest {
         int[][] rows = {{-1, 0, -1, -1}, {10, 0, -1, -1}, {0, -1, -1, -1}, {0, 10, -1, -1}, {0, 0, -2, -1},
             {0, 0, 10, -1}, {0, 0, 0, -2}, {0, 0, 0, 10}, {0, 0, -1, 0}};
         for (int[] row : rows) {
-            DUES.refused("a wrong ninth code " + Arrays.toString(row), BookEdgesTest::full, Dues.ARGUMENT,
+            DUES.refused("a wrong ninth code " + Arrays.toString(row), Desks::full, Dues.ARGUMENT,
                     d -> d.addCode(row[0], row[1], row[2], row[3]));
         }
         DUES.refused("the row 1 2 with a fourth one", BookEdgesTest::midway, Dues.ARGUMENT,
                 d -> d.addCode(1, 2, -1, 2));
-        DUES.refusedOutside("a wrong 25th word", BookEdgesTest::full, Dues.ARGUMENT, 0, 9, TelegraphDesk::write);
+        DUES.refusedOutside("a wrong 25th word", Desks::full, Dues.ARGUMENT, 0, 9, TelegraphDesk::write);
     }
 
     private static void noSuchCode(String name, Seen.NumberCall call) {
         DUES.refusedIndexes(name, TelegraphDesk::new, 0, call);
         DUES.refusedIndexes(name, () -> Desks.withWords(1, 2, 3), 0, call);
         DUES.refusedIndexes(name, BookEdgesTest::midway, 3, call);
-        DUES.refusedIndexes(name, BookEdgesTest::full, 8, call);
+        DUES.refusedIndexes(name, Desks::full, 8, call);
     }
 
     private static void droppedOnesAreNotThere() {
         Supplier<TelegraphDesk> making = () -> {
-            TelegraphDesk desk = full();
+            TelegraphDesk desk = Desks.full();
             desk.dropCode(0);
             return desk;
         };
@@ -204,7 +194,7 @@ public final class BookEdgesTest {
         for (int code = 0; code < 3; code++) {
             DUES.due("dropCode(" + code + ")", midway().dropCode(code), 2 + code);
         }
-        TelegraphDesk desk = full();
+        TelegraphDesk desk = Desks.full();
         for (int left = 8; left > 0; left--) {
             DUES.due("codes()", desk.codes(), left);
             DUES.due("dropCode, the last of " + left, desk.dropCode(left - 1), 2);
@@ -266,7 +256,7 @@ public final class BookEdgesTest {
         }
         DUES.due("words()", desk.words(), 24);
         for (int type : new int[] {0, 9}) {
-            DUES.refused("write(" + type + "), 24 are there", BookEdgesTest::full, Dues.STATE, d -> d.write(type));
+            DUES.refused("write(" + type + "), 24 are there", Desks::full, Dues.STATE, d -> d.write(type));
         }
         desk.strike();
         DUES.due("write, 23 are there again", desk.write(9), 24);
@@ -280,7 +270,7 @@ public final class BookEdgesTest {
 
     private static void strikeToNone() {
         DUES.refused("strike() of a new one", TelegraphDesk::new, Dues.STATE, TelegraphDesk::strike);
-        TelegraphDesk desk = full();
+        TelegraphDesk desk = Desks.full();
         for (int left = 23; left >= 0; left--) {
             DUES.due("strike()", desk.strike(), left / 2 % 10);
             DUES.due("words()", desk.words(), left);
@@ -315,7 +305,7 @@ public final class BookEdgesTest {
         DUES.due("clear() of none", none.clear(), 0);
         DUES.due("all behind clear() of none", Seen.all(none), before);
         DUES.due("clear() of one", Desks.withWords(9).clear(), 1);
-        TelegraphDesk desk = full();
+        TelegraphDesk desk = Desks.full();
         DUES.due("clear() of 24", desk.clear(), 24);
         TelegraphDesk codesAlone = new TelegraphDesk();
         Desks.addPairs(codesAlone, 8);
@@ -336,14 +326,14 @@ public final class BookEdgesTest {
     }
 
     private static void noSuchWord() {
-        TelegraphDesk desk = full();
+        TelegraphDesk desk = Desks.full();
         for (int word = 0; word < 24; word++) {
             DUES.due("typeOf(" + word + ")", desk.typeOf(word), word / 2 % 10);
         }
         DUES.refusedIndexes("typeOf", TelegraphDesk::new, 0, TelegraphDesk::typeOf);
         DUES.refusedIndexes("typeOf", () -> Desks.withWords(3), 1, TelegraphDesk::typeOf);
         DUES.refusedIndexes("typeOf", BookEdgesTest::midway, 8, TelegraphDesk::typeOf);
-        DUES.refusedIndexes("typeOf", BookEdgesTest::full, 24, TelegraphDesk::typeOf);
+        DUES.refusedIndexes("typeOf", Desks::full, 24, TelegraphDesk::typeOf);
         DUES.refused("typeOf of a word that was taken out", () -> {
             TelegraphDesk struck = midway();
             struck.strike();

@@ -33,6 +33,16 @@ final class Desks {
         }
     }
 
+    /** 8 codes for the rows 0 0 to 7 7, and the 24 words 0 0 1 1 .. 9 9 0 0 1 1. */
+    static TelegraphDesk full() {
+        TelegraphDesk desk = new TelegraphDesk();
+        addPairs(desk, 8);
+        for (int word = 0; word < 24; word++) {
+            desk.write(word / 2 % 10);
+        }
+        return desk;
+    }
+
     /** What is left by the count n, as the document's line has it. */
     static int left(int count) {
         return (count * 7 + count / 10) % 10;

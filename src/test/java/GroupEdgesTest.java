@@ -256,7 +256,8 @@ public final class GroupEdgesTest {
     }
 
     private static void smallestOfNoUse() {
-        DUES.due("the second and the third", coded(words(1, 2), words(1, 2), words(3, 4), words(5, 6)).uselessCode(), 1);
+        DUES.due("the second and the third",
+                coded(words(1, 2), words(1, 2), words(3, 4), words(5, 6)).uselessCode(), 1);
         DUES.due("the first and the third", coded(words(1, 2), words(3, 4), words(1, 2), words(5, 6)).uselessCode(), 0);
         TelegraphDesk eight = Desks.withWords(0, 0, 1, 1, 2, 2, 3, 3, 4, 4, 5, 5, 6, 6, 7, 7);
         Desks.addPairs(eight, 8);

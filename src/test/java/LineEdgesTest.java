@@ -430,7 +430,7 @@ public final class LineEdgesTest {
         sendOfOneAndMost();
         DUES.sentence("Sends the message, and empties it.");
         sendEmpties();
-        DUES.sentence("until it is not garbled, or 3 repeats were asked; if the last one is garbled as well, it is lost");
+        DUES.sentence("until it is not garbled, or 3 repeats were asked; if the last one is garbled as well, lost");
         repeatsOfOneGroup();
         DUES.sentence("each group of it, in their order, goes over the line; 3 repeats were asked for it");
         repeatsOfEachGroup();

@@ -12,8 +12,9 @@ public final class RulesTest {
     private static final Set<String> LIBRARY = Set.of("Math.max", "Math.min", "System.arraycopy");
     private static final Set<String> MADE = Set.of("int", "CodeBook", "Message", "Parting", "Passage",
             "IllegalArgumentException", "IllegalStateException", "IndexOutOfBoundsException");
-    private static final String NOT_IN_IT = "\\b(import|package|try|catch|finally|synchronized|assert|protected|native"
-            + "|volatile|transient|var|Object|equals|hashCode|toString|getClass|this::|super)\\b|->|::|@|\\bstatic\\s*\\{";
+    private static final String NOT_IN_IT = "\\b(import|package|try|catch|finally|synchronized|assert|protected"
+            + "|native|volatile|transient|var|Object|equals|hashCode|toString|getClass|this::|super)\\b"
+            + "|->|::|@|\\bstatic\\s*\\{";
     private static final int MOST_LINES_OF_A_METHOD = 60;
 
     private static final Dues DUES = new Dues();

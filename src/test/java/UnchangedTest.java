@@ -39,17 +39,8 @@ public final class UnchangedTest {
         return desk;
     }
 
-    private static TelegraphDesk full() {
-        TelegraphDesk desk = new TelegraphDesk();
-        Desks.addPairs(desk, 8);
-        for (int word = 0; word < 24; word++) {
-            desk.write(word / 2 % 10);
-        }
-        return desk;
-    }
-
     private static TelegraphDesk oneLeft() {
-        TelegraphDesk desk = full();
+        TelegraphDesk desk = Desks.full();
         desk.setQuality(1);
         desk.strike();
         desk.dropCode(0);
@@ -57,7 +48,7 @@ public final class UnchangedTest {
     }
 
     private static TelegraphDesk sent() {
-        TelegraphDesk desk = full();
+        TelegraphDesk desk = Desks.full();
         desk.setQuality(2);
         desk.send();
         return desk;
@@ -78,7 +69,7 @@ public final class UnchangedTest {
         states.put("24 words, no codes", () -> Desks.withWords(new int[24]));
         states.put("midway, quality 1", () -> midway(1));
         states.put("midway, quality 7", () -> midway(7));
-        states.put("full", UnchangedTest::full);
+        states.put("full", Desks::full);
         states.put("one left", UnchangedTest::oneLeft);
         states.put("sent", UnchangedTest::sent);
         states.put("cleared", UnchangedTest::cleared);
