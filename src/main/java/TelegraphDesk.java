@@ -570,7 +570,8 @@ public final class TelegraphDesk {
         }
 
         int codeAt(int group) {
-            return has(group) ? codes[starts[group]] : NONE;
+            int start = startAt(group);
+            return start >= 0 && start < MOST_WORDS ? codes[start] : NONE;
         }
 
         int groupsWith(int code) {
